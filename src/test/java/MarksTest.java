@@ -14,6 +14,7 @@ public final class MarksTest {
         appealReadingCountsForThatAlone();
         appealAsItIsWhenGiven();
         appealAfterALack();
+        eachOfMany();
         wrongArguments();
         check.end();
     }
@@ -147,6 +148,12 @@ public final class MarksTest {
         is("points that were no letters are left out", x, 0, 0, 1, 1, 2, 0, 0);
         Check.scheme(x, 1, "h");
         is("another question's scheme", x, 0, 0, 1, 1, 2, 0, 0);
+        ScriptRoom y = roomOfOne("b");
+        Check.work(y, 0, 3);
+        Check.scheme(y, 0, "a");
+        is("a was no letter", y, 0, 0, -1, 0, 1, 1, 0);
+        Check.scheme(y, 0, "2b");
+        is("b was one", y, 0, 0, 2, 1, 1, 0, 0);
         Check.scheme(x, 0, "h+");
         is("a fault", x, 0, 0, 1, 1, 2, 0, 0);
     }
@@ -258,6 +265,44 @@ public final class MarksTest {
         is("both", x, 0, 0, 0, 2, 4, 0, 1);
         Check.scheme(x, 0, "3a");
         is("the first for the appeal is 0, the first one is 1", x, 0, 0, 0, 4, 4, 0, 1);
+    }
+
+    /** Every answer has marks of its own, also those of other pupils and questions, read in turns. */
+    private static void eachOfMany() {
+        ScriptRoom x = new ScriptRoom();
+        String[] texts = {"a+2b+4c", "b+2c+4a", "c+2a+4b", "2(a+2b+4c)<9"};
+        for (int q = 0; q < 4; q++) Check.scheme(x, q, texts[q]);
+        for (int p = 0; p < 5; p++) x.pupil(p, 0, false);
+        x.reader(-1, 15, false);
+        x.reader(-1, 15, true);
+        x.twice(1, true);
+        x.tolerance(9);
+        int[][] points = new int[20][2];
+        int[] read = new int[20];
+        for (int n = 0; n < 25; n++) {
+            int reader = n % 5 == 4 ? 1 : 0;
+            int what = x.next(reader);
+            if (what == -1) what = x.next(reader = 1 - reader);
+            int answer = what / 10 * 4 + what % 10;
+            points[answer][read[answer]++] = n * 5 % 8;
+            x.read(reader, n * 5 % 8);
+        }
+        check.same("28: all are read", x.wanted(), 0);
+        for (int p = 0; p < 5; p++) {
+            for (int q = 0; q < 4; q++) {
+                int[] found = points[4 * p + q];
+                int due = x.markOf(q, 0, found[0]);
+                if (q == 1) due = (due + x.markOf(q, 0, found[1]) + 1) / 2;
+                is("pupil " + p + ", question " + q, x, p, q, due, q == 1 ? 2 : 1, q == 1 ? 2 : 1, 0, 0);
+            }
+        }
+        Check.scheme(x, 2, "a");
+        Check.scheme(x, 3, "h");
+        check.same("28: those of question 3", x.wanted(), 5);
+        for (int p = 0; p < 5; p++) {
+            is("fewer letters", x, p, 2, points[4 * p + 2][0] & 1, 1, 1, 0, 0);
+            is("other letters", x, p, 3, -1, 0, 1, 1, 0);
+        }
     }
 
     private static void wrongArguments() {

@@ -16,6 +16,7 @@ public final class ReadersTest {
         read();
         readStops();
         seedByTheSchemeThatHolds();
+        seedsHavePointsOfTheirOwn();
         seedWithinTheTolerance();
         goOn();
         voidSinceTheLastGoodSeed();
@@ -258,6 +259,23 @@ public final class ReadersTest {
         check.same("10: seed", x.next(0), 1000);
         check.same("11: the mark by the new one", x.read(0, 1), 1);
         check.same("11: 1 is not 5", x.ofReader(0, 0), 1);
+    }
+
+    private static void seedsHavePointsOfTheirOwn() {
+        ScriptRoom x = new ScriptRoom();
+        for (int q = 0; q < 4; q++) Check.scheme(x, q, "a+2b+4c+8d");
+        for (int i = 0; i < 6; i++) x.pupil(0, 1, false);
+        x.reader(-1, 15, false);
+        x.tolerance(0);
+        x.seed(1, 1);
+        x.seed(0, 2);
+        x.seed(2, 12);
+        for (int[] due : new int[][] {{1001, 1}, {1000, 2}, {1002, 12}}) {
+            for (int i = 0; i < 3; i++) check.same("10: no seed yet", Check.work(x, 0, 0) < 1000, true);
+            check.same("10: seed", Check.work(x, 0, due[1]), due[0]);
+            check.same("11: read well", x.ofReader(0, 0), 0);
+        }
+        check.same("27: three were given", x.ofReader(0, 5), 3);
     }
 
     private static int stoppedBy(int tolerance, int points) {

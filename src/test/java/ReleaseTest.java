@@ -32,6 +32,13 @@ public final class ReleaseTest {
         check.same("22: the better one of two, first", totalOf(1, 2, 7, 3), 15);
         check.same("22: the better one of two, second", totalOf(7, 0, 1, 2), 14);
         check.same("22: only of the last two", totalOf(7, 7, 0, 0), 19);
+        for (int missing = 0; missing < 4; missing++) {
+            ScriptRoom y = new ScriptRoom();
+            y.pupil(0, 15 - (1 << missing), false);
+            y.gift(0, 3);
+            check.same("22: only question " + missing + " is missing", y.total(0), -1);
+            check.same("25: no total is there", y.lineOf(0), 0);
+        }
         ScriptRoom x = new ScriptRoom();
         check.fails("22: no pupil", Check.BOUNDS, () -> x.total(0));
         x.pupil(0, 15, false);

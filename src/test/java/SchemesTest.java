@@ -139,6 +139,16 @@ public final class SchemesTest {
         fault("((((a+(b)))))", 6);
         fault("((((a))))+((((b", 15);
         fault("a+a+a+a+a+a+a+a+a+a+a+a+a+a+a+a+a+a+a+a+", 40);
+        ScriptRoom x = new ScriptRoom();
+        check.same("5: brackets left open", Check.scheme(x, 0, "(((a"), -5);
+        check.same("5: are open no more", Check.scheme(x, 0, "a|b"), -2);
+        check.same("5: and not missed", Check.scheme(x, 0, "((((a))))"), 0);
+        check.same("5: a number left out", Check.scheme(x, 0, "9a<"), -4);
+        check.same("5: the next without one", Check.scheme(x, 0, "9a"), 1);
+        check.same("17: by no number", x.markOf(0, 1, 1), 9);
+        check.same("5: a number", Check.scheme(x, 0, "9a<5"), 2);
+        check.same("5: then none", Check.scheme(x, 0, "9a"), 3);
+        check.same("17: by no number again", x.markOf(0, 3, 1), 9);
     }
 
     private static void schemeVersions() {
@@ -202,7 +212,7 @@ public final class SchemesTest {
         marks("h", 127, 0, 128, 1);
         marks("2a+3b+c", 1, 2, 2, 3, 4, 1, 7, 6, 255, 6);
         marks("a+a", 1, 2);
-        marks("2(a|2b)", 1, 2, 2, 4, 3, 4);
+        marks("2(a|2b)", 1, 2, 2, 4, 3, 4, 128, 0, 255, 4);
         marks("(a+b|2c)", 3, 2, 4, 2, 7, 2, 1, 1, 0, 0);
         marks("(a|b|c)", 0, 0, 1, 1, 2, 1, 4, 1, 7, 1);
         marks("3(2(a|b)+c)+d", 1, 6, 2, 6, 4, 3, 7, 9, 15, 10);
