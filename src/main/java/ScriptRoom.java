@@ -323,11 +323,7 @@ public final class ScriptRoom {
         if (!readers.isFor(reader, question) || !schemes.holdsFor(question)) return false;
         if (hasReadingBy(reader, answerOf(pupil, question))) return false;
         if (wantedBy(pupil, question) <= readers.holding(codeOf(pupil, question))) return false;
-        return readers.senior.is(reader) || tally.plain < asPlainDue(question);
-    }
-
-    private int asPlainDue(int question) {
-        return doubled.is(question) ? 2 : 1;
+        return readers.senior.is(reader) || !tally.isPastDue(doubled.is(question));
     }
 
     private boolean hasReadingBy(int reader, int answer) {
@@ -883,9 +879,9 @@ public final class ScriptRoom {
     private static final class Tally {
         int all;
         int counting;
-        /** How many count that were not given for an appeal. */
-        int plain;
         int appealed;
+        /** How many count that were not given for an appeal. */
+        private int plain;
         private int first;
         private int second;
         private int third;
@@ -914,10 +910,14 @@ public final class ScriptRoom {
             plain++;
         }
 
+        /** Whatever is wanted from here on is wanted by a senior. */
+        boolean isPastDue(boolean isTwice) {
+            return plain >= (isTwice ? 2 : 1);
+        }
+
         /** How many are wanted but for an appeal. */
         int lackingAsPlain(boolean isTwice, int most) {
-            int due = isTwice ? 2 : 1;
-            if (plain < due) return due - plain;
+            if (!isPastDue(isTwice)) return (isTwice ? 2 : 1) - plain;
             return isTwice && third == NONE && areApart(first, second, most) ? 1 : 0;
         }
 
