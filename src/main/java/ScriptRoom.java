@@ -188,7 +188,11 @@ public final class ScriptRoom {
 
     public int markAnew(int pupil, int question) throws IndexOutOfBoundsException {
         if (!pupils.has(pupil) || !isQuestion(question)) throw new IndexOutOfBoundsException();
-        return markFromLog(pupil, question);
+        if (pupils.isLacking(pupil, question)) return 0;
+        int answer = answerOf(pupil, question);
+        int found = doubled.is(question) ? doubleFromLog(answer) : markFound(findReading(answer, 0, false, false));
+        int other = markFound(findReading(answer, 0, true, false));
+        return found != NONE && other != NONE && areApart(found, other, apartAtMost) ? other : found;
     }
 
     public int answer(int pupil, int question, int what) throws IndexOutOfBoundsException, IllegalArgumentException {
@@ -412,14 +416,6 @@ public final class ScriptRoom {
         if (pupils.isLacking(pupil, question)) return 0;
         tallyUp(pupil, question);
         return tally.outcome(doubled.is(question), apartAtMost);
-    }
-
-    private int markFromLog(int pupil, int question) {
-        if (pupils.isLacking(pupil, question)) return 0;
-        int answer = answerOf(pupil, question);
-        int found = doubled.is(question) ? doubleFromLog(answer) : markFound(findReading(answer, 0, false, false));
-        int other = markFound(findReading(answer, 0, true, false));
-        return found != NONE && other != NONE && areApart(found, other, apartAtMost) ? other : found;
     }
 
     private int doubleFromLog(int answer) {
